@@ -1,0 +1,95 @@
+import java.util.Objects;
+
+/** Counts the answers that are due, prints those that are not, and ends a test with exit code 1 then. */
+final class Check {
+    private static final int REFUSED = -99;
+
+    private int right = 0;
+    private int wrong = 0;
+
+    interface Call {
+        Object answer();
+    }
+
+    void same(String what, Object got, Object due) {
+        if (Objects.equals(got, due)) {
+            right++;
+        } else {
+            wrong++;
+            System.out.println(what + ": answered " + got + ", due is " + due);
+        }
+    }
+
+    /** The call throws just that exception, and changes nothing. */
+    void fails(String what, Rowbench x, Class<? extends RuntimeException> due, Call call) {
+        String before = told(x) + x.house(2);
+        same(what, outcome(call), "throws." + due.getSimpleName());
+        same(what + " changes nothing", told(x) + x.house(2), before);
+    }
+
+    void noPlace(String what, Rowbench x, Call call) {
+        fails(what, x, IndexOutOfBoundsException.class, call);
+    }
+
+    void noValue(String what, Rowbench x, Call call) {
+        fails(what, x, IllegalArgumentException.class, call);
+    }
+
+    /** The call answers REFUSED, which house() 2 counts, and changes nothing else. */
+    void refused(String what, Rowbench x, Call call) {
+        String before = told(x);
+        int refusals = x.house(2);
+        same(what, outcome(call), REFUSED);
+        same(what + " is counted", x.house(2), refusals + 1);
+        same(what + " changes nothing else", told(x), before);
+    }
+
+    void finish(String name) {
+        System.out.println(name + ": " + right + " answers are as due, " + wrong + " are not");
+        if (wrong != 0) {
+            System.exit(1);
+        }
+    }
+
+    static Object outcome(Call call) {
+        try {
+            return call.answer();
+        } catch (RuntimeException e) {
+            return "throws." + e.getClass().getSimpleName();
+        }
+    }
+
+    /** A row's values, as a text. */
+    static String row(Rowbench x, int kind, int row) {
+        StringBuilder told = new StringBuilder();
+        for (int place = 0; place < x.length(kind, row); place++) {
+            told.append(place == 0 ? "" : " ").append(x.at(kind, row, place));
+        }
+        return told.toString();
+    }
+
+    /** Makes a row one of these values. */
+    static void lay(Rowbench x, int kind, int row, int... values) {
+        x.resize(kind, row, values.length);
+        for (int place = 0; place < values.length; place++) {
+            x.put(kind, row, place, values[place]);
+        }
+    }
+
+    static void layBoxes(Rowbench x, int row, int... values) {
+        for (int place = 0; place < values.length; place++) {
+            x.putBox(row, place, values[place]);
+        }
+    }
+
+    /** All that the bench tells, but for how often the library refused. */
+    static String told(Rowbench x) {
+        StringBuilder told = new StringBuilder();
+        for (int kind = 0; kind < 5; kind++) {
+            for (int row = 0; row < 3; row++) {
+                told.append(row(x, kind, row)).append(x.isOne(kind, row, (row + 1) % 3) ? " one;" : ";");
+            }
+        }
+        return told.append(x.listText(0)).append(x.listText(1)).append(x.house(1)).toString();
+    }
+}
