@@ -23,7 +23,7 @@ public final class Rowbench {
 
     private static final long FIRST_CHECKSUM = 7709;
 
-    /** Three stores of each kind; which of them a row stands in, storeOf tells. Rows that are one stand in the same. */
+    /** Three stores of each kind; storeOf tells in which a row stands. Rows that are one stand in the same. */
     private final Row[] stores = new Row[KINDS * ROWS];
     private final int[] storeOf = new int[KINDS * ROWS];
     private final Row[] boxes = new Row[BOX_ROWS];
@@ -422,7 +422,7 @@ public final class Rowbench {
         return -1 - from - searched.countBelow(from, to, value);
     }
 
-    /** The line is kept and written anew each time: the digest asks for many texts and needs their lengths alone. */
+    /** The line is kept and written anew each time: a digest needs many texts, but their lengths alone. */
     private StringBuilder writtenLine(Row written) {
         line.setLength(0);
         line.append('[');
@@ -568,7 +568,10 @@ public final class Rowbench {
         return d;
     }
 
-    /** The places of a row. It looks at each index itself: a place that the row does not have holds 0 and takes nothing. */
+    /**
+     * The places of a row. It looks at each index itself: a place that the row does not have holds 0
+     * and takes nothing.
+     */
     private static final class Row {
         private final int[] values = new int[MOST_PLACES];
         private int length;

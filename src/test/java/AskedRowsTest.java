@@ -5,8 +5,6 @@ public final class AskedRowsTest {
     private static final int INTS = 0;
     private static final int SIGNS = 2;
     private static final int BYTES = 3;
-    private static final int[] NO_KINDS = {-1, 5, Integer.MIN_VALUE, Integer.MAX_VALUE};
-    private static final int[] NO_ROWS = {-1, 3, Integer.MIN_VALUE, Integer.MAX_VALUE};
 
     private static final Check check = new Check();
 
@@ -37,10 +35,10 @@ public final class AskedRowsTest {
                 check.same("12: its own length", x.length(kind, row), 3 * kind + row);
             }
         }
-        for (int no : NO_KINDS) {
+        for (int no : Check.NO_KINDS) {
             check.noPlace("12: no kind", x, () -> x.length(no, 0));
         }
-        for (int no : NO_ROWS) {
+        for (int no : Check.NO_ROWS) {
             check.noPlace("12: no row", x, () -> x.length(INTS, no));
         }
     }
@@ -59,10 +57,10 @@ public final class AskedRowsTest {
             check.noPlace("13: no place in an empty row", x, () -> x.at(k, 0, 0));
         }
         Rowbench x = new Rowbench();
-        for (int no : NO_KINDS) {
+        for (int no : Check.NO_KINDS) {
             check.noPlace("13: no kind", x, () -> x.at(no, 0, 0));
         }
-        for (int no : NO_ROWS) {
+        for (int no : Check.NO_ROWS) {
             check.noPlace("13: no row", x, () -> x.at(INTS, no, 0));
         }
     }
@@ -89,10 +87,10 @@ public final class AskedRowsTest {
         Rowbench x = new Rowbench();
         Check.lay(x, SIGNS, 0, 65535, 0);
         check.noValue("14: no value goes ahead of not sorted", x, () -> x.search(SIGNS, 0, -1));
-        for (int no : NO_KINDS) {
+        for (int no : Check.NO_KINDS) {
             check.noPlace("14: no kind", x, () -> x.search(no, 0, 0));
         }
-        for (int no : NO_ROWS) {
+        for (int no : Check.NO_ROWS) {
             check.noPlace("14: no row goes ahead", x, () -> x.search(SIGNS, no, -1));
         }
     }
@@ -123,10 +121,10 @@ public final class AskedRowsTest {
         Check.lay(x, BYTES, 0, 3, 1);
         check.noValue("15: no value goes ahead of no part", x, () -> x.searchPart(BYTES, 0, 1, 0, 128));
         check.noValue("15: no value goes ahead of not sorted", x, () -> x.searchPart(BYTES, 0, 0, 2, 128));
-        for (int no : NO_KINDS) {
+        for (int no : Check.NO_KINDS) {
             check.noPlace("15: no kind", x, () -> x.searchPart(no, 0, 1, 0, 0));
         }
-        for (int no : NO_ROWS) {
+        for (int no : Check.NO_ROWS) {
             check.noPlace("15: no row goes ahead", x, () -> x.searchPart(BYTES, no, 1, 0, 128));
         }
     }
@@ -147,21 +145,7 @@ public final class AskedRowsTest {
             check.same("16: itself", x.isEqual(k, 1, 1), true);
         }
         Rowbench x = new Rowbench();
-        badPairs("16", x, (kind, row, other) -> x.isEqual(kind, row, other));
-    }
-
-    private interface Pair {
-        Object answer(int kind, int row, int other);
-    }
-
-    private static void badPairs(String promise, Rowbench x, Pair call) {
-        for (int no : NO_KINDS) {
-            check.noPlace(promise + ": no kind", x, () -> call.answer(no, 0, 1));
-        }
-        for (int no : NO_ROWS) {
-            check.noPlace(promise + ": no row", x, () -> call.answer(INTS, no, 1));
-            check.noPlace(promise + ": no other row", x, () -> call.answer(INTS, 1, no));
-        }
+        check.badPairs("16", x, (kind, row, other) -> x.isEqual(kind, row, other));
     }
 
     private static void isOne() {
@@ -177,7 +161,7 @@ public final class AskedRowsTest {
             check.same("17: a copy is not", x.isOne(kind, 0, 1), false);
         }
         Rowbench x = new Rowbench();
-        badPairs("17", x, (kind, row, other) -> x.isOne(kind, row, other));
+        check.badPairs("17", x, (kind, row, other) -> x.isOne(kind, row, other));
     }
 
     private static void order() {
@@ -204,7 +188,7 @@ public final class AskedRowsTest {
             Check.lay(x, kind, 1, highest[kind]);
             both("18: as numbers", x, kind, -1);
         }
-        badPairs("18", x, (kind, row, other) -> x.order(kind, row, other));
+        check.badPairs("18", x, (kind, row, other) -> x.order(kind, row, other));
     }
 
     private static void both(String what, Rowbench x, int kind, int due) {
@@ -228,7 +212,7 @@ public final class AskedRowsTest {
             check.same("19: itself", x.mismatch(kind, 1, 1), -1);
         }
         Rowbench x = new Rowbench();
-        badPairs("19", x, (kind, row, other) -> x.mismatch(kind, row, other));
+        check.badPairs("19", x, (kind, row, other) -> x.mismatch(kind, row, other));
     }
 
     private static void isEqualFrom() {
@@ -260,7 +244,7 @@ public final class AskedRowsTest {
             }
         }
         Rowbench x = new Rowbench();
-        badPairs("20", x, (kind, row, other) -> x.isEqualFrom(kind, row, 31, other, 31));
+        check.badPairs("20", x, (kind, row, other) -> x.isEqualFrom(kind, row, 31, other, 31));
     }
 
     /** What is refused is told as false, and not counted, as no number is told. */
@@ -280,7 +264,7 @@ public final class AskedRowsTest {
         Check.lay(x, INTS, 2, Integer.MAX_VALUE, Integer.MIN_VALUE, 3, -4, 5, 6);
         int due = Arrays.hashCode(new int[] {Integer.MAX_VALUE, Integer.MIN_VALUE, 3, -4, 5, 6});
         check.same("21: wraps around", x.hash(2), due);
-        for (int no : NO_ROWS) {
+        for (int no : Check.NO_ROWS) {
             check.noPlace("21: no row", x, () -> x.hash(no));
         }
     }
@@ -296,7 +280,7 @@ public final class AskedRowsTest {
         x.text(0);
         x.listText(0);
         check.same("22: a text that was told stays", kept, "[0, -2147483648, 2147483647]");
-        for (int no : NO_ROWS) {
+        for (int no : Check.NO_ROWS) {
             check.noPlace("22: no row", x, () -> x.text(no));
         }
     }

@@ -88,6 +88,7 @@ public final class BoxesTest {
         check.same("29: the last one of others", x.indexOf(row, 7, true), 4);
         check.same("29: at the front", x.indexOf(row, 8, true), 0);
         check.same("29: at the end", x.indexOf(row, 9, false), 5);
+        check.same("29: at the end, from behind", x.indexOf(row, 9, true), 5);
         check.same("29: none", x.indexOf(row, 0, false), -1);
         check.same("29: none from behind", x.indexOf(row, 0, true), -1);
         check.same("30: is there", x.contains(row, 1000), true);

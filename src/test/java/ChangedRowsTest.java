@@ -5,8 +5,6 @@ public final class ChangedRowsTest {
     private static final int SIGNS = 2;
     private static final int BYTES = 3;
     private static final int SHORTS = 4;
-    private static final int[] NO_KINDS = {-1, 5, Integer.MIN_VALUE, Integer.MAX_VALUE};
-    private static final int[] NO_ROWS = {-1, 3, Integer.MIN_VALUE, Integer.MAX_VALUE};
 
     private static final Check check = new Check();
 
@@ -61,11 +59,11 @@ public final class ChangedRowsTest {
         check.refused("2: far below 0", x, () -> x.resize(INTS, 0, Integer.MIN_VALUE));
         check.noValue("2: above 24", x, () -> x.resize(INTS, 0, 25));
         check.noValue("2: far above 24", x, () -> x.resize(INTS, 0, Integer.MAX_VALUE));
-        for (int no : NO_KINDS) {
+        for (int no : Check.NO_KINDS) {
             check.noPlace("2: no kind goes ahead", x, () -> x.resize(no, 0, 25));
             check.noPlace("2: no kind goes ahead of REFUSED", x, () -> x.resize(no, 0, -1));
         }
-        for (int no : NO_ROWS) {
+        for (int no : Check.NO_ROWS) {
             check.noPlace("2: no row goes ahead", x, () -> x.resize(INTS, no, 25));
             check.noPlace("2: no row goes ahead of REFUSED", x, () -> x.resize(INTS, no, -1));
         }
@@ -105,12 +103,12 @@ public final class ChangedRowsTest {
         check.noValue("3: to is 31", x, () -> x.range(INTS, 0, 1, 10, 31));
         check.noValue("3: to is -31", x, () -> x.range(INTS, 0, 1, 0, -31));
         check.noValue("3: to is very far", x, () -> x.range(INTS, 0, 1, Integer.MIN_VALUE, Integer.MAX_VALUE));
-        for (int no : NO_ROWS) {
+        for (int no : Check.NO_ROWS) {
             check.noPlace("3: no row", x, () -> x.range(INTS, no, 0, 0, 31));
             check.noPlace("3: no other row", x, () -> x.range(INTS, 0, no, 0, 31));
             check.noPlace("3: no other row, ahead of REFUSED", x, () -> x.range(INTS, 0, no, 2, 1));
         }
-        for (int no : NO_KINDS) {
+        for (int no : Check.NO_KINDS) {
             check.noPlace("3: no kind", x, () -> x.range(no, 0, 0, 0, 31));
         }
     }
@@ -131,7 +129,7 @@ public final class ChangedRowsTest {
             check.same("4: nothing", Check.row(x, kind, 0), "");
         }
         Rowbench x = new Rowbench();
-        badPairs("4", x, (kind, row, other) -> x.copy(kind, row, other));
+        check.badPairs("4", x, (kind, row, other) -> x.copy(kind, row, other));
     }
 
     private static void share() {
@@ -171,21 +169,7 @@ public final class ChangedRowsTest {
         check.same("5: left", x.isOne(INTS, 0, 2), false);
         check.same("5: the one that was left", Check.row(x, INTS, 0), "4 5");
         check.same("5: the one that came", Check.row(x, INTS, 2), "7");
-        badPairs("5", x, (kind, row, other) -> x.share(kind, row, other));
-    }
-
-    private interface Pair {
-        Object answer(int kind, int row, int other);
-    }
-
-    private static void badPairs(String promise, Rowbench x, Pair call) {
-        for (int no : NO_KINDS) {
-            check.noPlace(promise + ": no kind", x, () -> call.answer(no, 0, 1));
-        }
-        for (int no : NO_ROWS) {
-            check.noPlace(promise + ": no row", x, () -> call.answer(INTS, no, 1));
-            check.noPlace(promise + ": no other row", x, () -> call.answer(INTS, 1, no));
-        }
+        check.badPairs("5", x, (kind, row, other) -> x.share(kind, row, other));
     }
 
     /** The words on ONE: what becomes another row leaves those with which it was; what is refused does not. */
@@ -260,10 +244,10 @@ public final class ChangedRowsTest {
         check.same("6: REFUSED may be a value", x.put(BYTES, 0, 0, 1), -99);
         check.same("6: which was not refused", x.house(2), 0);
         check.noValue("6: no value goes ahead of no place", x, () -> x.put(BYTES, 0, 9, 128));
-        for (int no : NO_KINDS) {
+        for (int no : Check.NO_KINDS) {
             check.noPlace("6: no kind goes ahead", x, () -> x.put(no, 0, 9, 1));
         }
-        for (int no : NO_ROWS) {
+        for (int no : Check.NO_ROWS) {
             check.noPlace("6: no row goes ahead", x, () -> x.put(BYTES, no, 9, 128));
         }
     }
@@ -312,10 +296,10 @@ public final class ChangedRowsTest {
             check.same("7: no other row", x.house(0), 4);
         }
         Rowbench x = new Rowbench();
-        for (int no : NO_KINDS) {
+        for (int no : Check.NO_KINDS) {
             check.noPlace("7: no kind", x, () -> x.fill(no, 0, 1));
         }
-        for (int no : NO_ROWS) {
+        for (int no : Check.NO_ROWS) {
             check.noPlace("7: no row goes ahead", x, () -> x.fill(SIGNS, no, -1));
         }
         check.noValue("7: no value, in an empty row too", x, () -> x.fill(SHORTS, 0, 32768));
@@ -336,10 +320,10 @@ public final class ChangedRowsTest {
         Rowbench x = new Rowbench();
         check.same("8: of an empty row", x.fillPart(INTS, 0, 0, 0, 1), 0);
         check.noValue("8: no value goes ahead of no part", x, () -> x.fillPart(SIGNS, 0, 2, 1, 65536));
-        for (int no : NO_KINDS) {
+        for (int no : Check.NO_KINDS) {
             check.noPlace("8: no kind", x, () -> x.fillPart(no, 0, 2, 1, 1));
         }
-        for (int no : NO_ROWS) {
+        for (int no : Check.NO_ROWS) {
             check.noPlace("8: no row goes ahead", x, () -> x.fillPart(SIGNS, no, 2, 1, -1));
         }
     }
@@ -366,7 +350,7 @@ public final class ChangedRowsTest {
         check.same("9: the rule", Check.row(x, INTS, 1), "10 7 4 1");
         x.ramp(1, Integer.MAX_VALUE, Integer.MAX_VALUE);
         check.same("9: wraps around", Check.row(x, INTS, 1), "2147483647 -2 2147483645 -4");
-        for (int no : NO_ROWS) {
+        for (int no : Check.NO_ROWS) {
             check.noPlace("9: no row", x, () -> x.ramp(no, 1, 1));
         }
     }
@@ -395,10 +379,10 @@ public final class ChangedRowsTest {
         x.resize(INTS, 2, 24);
         x.ramp(2, 1, 1);
         check.same("10: all in order", x.isEqual(INTS, 1, 2), true);
-        for (int no : NO_KINDS) {
+        for (int no : Check.NO_KINDS) {
             check.noPlace("10: no kind", x, () -> x.sort(no, 0));
         }
-        for (int no : NO_ROWS) {
+        for (int no : Check.NO_ROWS) {
             check.noPlace("10: no row", x, () -> x.sort(INTS, no));
         }
     }
@@ -416,10 +400,10 @@ public final class ChangedRowsTest {
             check.same("11: everywhere", Check.row(x, k, 0), "6 7 8 9");
         }
         Rowbench x = new Rowbench();
-        for (int no : NO_KINDS) {
+        for (int no : Check.NO_KINDS) {
             check.noPlace("11: no kind", x, () -> x.sortPart(no, 0, 2, 1));
         }
-        for (int no : NO_ROWS) {
+        for (int no : Check.NO_ROWS) {
             check.noPlace("11: no row", x, () -> x.sortPart(INTS, no, 2, 1));
         }
     }

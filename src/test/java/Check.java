@@ -2,6 +2,9 @@ import java.util.Objects;
 
 /** Counts the answers that are due, prints those that are not, and ends a test with exit code 1 then. */
 final class Check {
+    static final int[] NO_KINDS = {-1, 5, Integer.MIN_VALUE, Integer.MAX_VALUE};
+    static final int[] NO_ROWS = {-1, 3, Integer.MIN_VALUE, Integer.MAX_VALUE};
+
     private static final int REFUSED = -99;
 
     private int right = 0;
@@ -9,6 +12,10 @@ final class Check {
 
     interface Call {
         Object answer();
+    }
+
+    interface PairCall {
+        Object answer(int kind, int row, int other);
     }
 
     void same(String what, Object got, Object due) {
@@ -42,6 +49,17 @@ final class Check {
         same(what, outcome(call), REFUSED);
         same(what + " is counted", x.house(2), refusals + 1);
         same(what + " changes nothing else", told(x), before);
+    }
+
+    /** A call on two rows throws if there is no such kind, first row or second row. */
+    void badPairs(String promise, Rowbench x, PairCall call) {
+        for (int no : NO_KINDS) {
+            noPlace(promise + ": no kind", x, () -> call.answer(no, 0, 1));
+        }
+        for (int no : NO_ROWS) {
+            noPlace(promise + ": no row", x, () -> call.answer(0, no, 1));
+            noPlace(promise + ": no other row", x, () -> call.answer(0, 1, no));
+        }
     }
 
     void finish(String name) {

@@ -1,7 +1,10 @@
 import java.lang.reflect.InvocationTargetException;
 import java.lang.reflect.Method;
 
-/** All promises: long runs of calls, each answer and each digest held against LibraryBench. The runs are the same each time. */
+/**
+ * All promises: long runs of calls, each answer and each digest held against LibraryBench. The runs
+ * are the same each time.
+ */
 public final class LibraryRunsTest {
     private static final int RUNS = 400;
     private static final int CALLS = 512;

@@ -47,6 +47,7 @@ public final class WholeTest {
         Check.lay(x, 0, 0, 3, 1, 3, Integer.MIN_VALUE);
         x.share(0, 0, 1);
         Check.lay(x, 3, 0, 3, 1, -128);
+        x.resize(1, 2, 24);
         Check.layBoxes(x, 1, 3, 1, 2, 9, 1000, 0);
         String before = Check.told(x);
         check.same("36: of rows", x.isSound(), true);
