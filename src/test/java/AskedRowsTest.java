@@ -78,9 +78,9 @@ public final class AskedRowsTest {
             check.same("14: three are less", x.search(k, 0, 5), -4);
             check.same("14: above all", x.search(k, 0, 7), -5);
             Check.lay(x, k, 0, 2, 4, 3);
-            fallen("14: not sorted", x, () -> x.search(k, 0, 2));
+            check.fallen("14: not sorted", x, () -> x.search(k, 0, 2));
             Check.lay(x, k, 0, 5, 4, 6);
-            fallen("14: not sorted at the front", x, () -> x.search(k, 0, 9));
+            check.fallen("14: not sorted at the front", x, () -> x.search(k, 0, 9));
             Check.lay(x, k, 0, 7, 7);
             check.same("14: the same are sorted", x.search(k, 0, 8), -3);
         }
@@ -95,10 +95,6 @@ public final class AskedRowsTest {
         }
     }
 
-    private static void fallen(String what, Rowbench x, Check.Call call) {
-        check.fails(what, x, IllegalStateException.class, call);
-    }
-
     private static void searchPart() {
         for (int kind = 0; kind < 5; kind++) {
             int k = kind;
@@ -110,8 +106,8 @@ public final class AskedRowsTest {
             check.same("15: two are less", x.searchPart(k, 0, 1, 4, 5), -4);
             check.same("15: in an empty part", x.searchPart(k, 0, 3, 3, 6), -4);
             check.same("15: in an empty part at the end", x.searchPart(k, 0, 5, 5, 1), -6);
-            fallen("15: the front is not sorted", x, () -> x.searchPart(k, 0, 0, 4, 4));
-            fallen("15: the end is not sorted", x, () -> x.searchPart(k, 0, 1, 5, 4));
+            check.fallen("15: the front is not sorted", x, () -> x.searchPart(k, 0, 0, 4, 4));
+            check.fallen("15: the end is not sorted", x, () -> x.searchPart(k, 0, 1, 5, 4));
             check.refused("15: from above to", x, () -> x.searchPart(k, 0, 4, 0, 4));
             check.refused("15: from below 0", x, () -> x.searchPart(k, 0, -1, 4, 4));
             check.refused("15: to above the end", x, () -> x.searchPart(k, 0, 0, 6, 4));
@@ -249,9 +245,8 @@ public final class AskedRowsTest {
 
     /** What is refused is told as false, and not counted, as no number is told. */
     private static void notEqual(Rowbench x, int kind, int from, int from2) {
-        String before = Check.told(x) + x.house(2);
-        check.same("20: refused " + from + " " + from2, x.isEqualFrom(kind, 0, from, 1, from2), false);
-        check.same("20: changes nothing", Check.told(x) + x.house(2), before);
+        String what = "20: refused " + from + " " + from2;
+        check.asks(what, x, false, () -> x.isEqualFrom(kind, 0, from, 1, from2));
     }
 
     private static void hash() {

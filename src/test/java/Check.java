@@ -1,11 +1,20 @@
 import java.util.Objects;
 
-/** Counts the answers that are due, prints those that are not, and ends a test with exit code 1 then. */
+/**
+ * Counts the answers that are due, prints those that are not, and ends a test with exit code 1 then.
+ *
+ * An object is promised to answer 512 calls: so what a bench tells as a whole is asked by its digest
+ * wherever that is enough, as that is one call.
+ */
 final class Check {
     static final int[] NO_KINDS = {-1, 5, Integer.MIN_VALUE, Integer.MAX_VALUE};
     static final int[] NO_ROWS = {-1, 3, Integer.MIN_VALUE, Integer.MAX_VALUE};
 
-    private static final int REFUSED = -99;
+    /** The least and the greatest VALUE of each KIND. */
+    static final int[] LOWEST = {Integer.MIN_VALUE, Integer.MIN_VALUE, 0, -128, -32768};
+    static final int[] HIGHEST = {Integer.MAX_VALUE, Integer.MAX_VALUE, 65535, 127, 32767};
+
+    static final int REFUSED = -99;
 
     private int right = 0;
     private int wrong = 0;
@@ -27,11 +36,23 @@ final class Check {
         }
     }
 
+    /** The call answers that, and was not refused. */
+    void answers(String what, Rowbench x, Object due, Call call) {
+        int refusals = x.house(2);
+        same(what, outcome(call), due);
+        same(what + " is not refused", x.house(2), refusals);
+    }
+
+    /** The call answers that, and changes nothing: house() 2 neither. */
+    void asks(String what, Rowbench x, Object due, Call call) {
+        long before = x.digest();
+        same(what, outcome(call), due);
+        same(what + " changes nothing", x.digest(), before);
+    }
+
     /** The call throws just that exception, and changes nothing. */
     void fails(String what, Rowbench x, Class<? extends RuntimeException> due, Call call) {
-        String before = told(x) + x.house(2);
-        same(what, outcome(call), "throws." + due.getSimpleName());
-        same(what + " changes nothing", told(x) + x.house(2), before);
+        asks(what, x, "throws." + due.getSimpleName(), call);
     }
 
     void noPlace(String what, Rowbench x, Call call) {
@@ -42,13 +63,29 @@ final class Check {
         fails(what, x, IllegalArgumentException.class, call);
     }
 
+    void fallen(String what, Rowbench x, Call call) {
+        fails(what, x, IllegalStateException.class, call);
+    }
+
     /** The call answers REFUSED, which house() 2 counts, and changes nothing else. */
     void refused(String what, Rowbench x, Call call) {
-        String before = told(x);
         int refusals = x.house(2);
+        long before = x.digest();
         same(what, outcome(call), REFUSED);
         same(what + " is counted", x.house(2), refusals + 1);
-        same(what + " changes nothing else", told(x), before);
+        same(what + " changes nothing else", x.digest(), before + onceMoreRefused(x.house(0)));
+    }
+
+    /**
+     * How much more a digest is when house() 2 is 1 more: 31 times for each number behind it. These
+     * are house() 3, 15 lengths, the places, 45 of pairs, 6 of INTS, 16 of BOXES, and 2 at the end.
+     */
+    private static long onceMoreRefused(int places) {
+        long more = 1;
+        for (int behind = 0; behind < 1 + 15 + places + 45 + 6 + 16 + 2; behind++) {
+            more *= 31;
+        }
+        return more;
     }
 
     /** A call on two rows throws if there is no such kind, first row or second row. */
@@ -80,8 +117,18 @@ final class Check {
     /** A row's values, as a text. */
     static String row(Rowbench x, int kind, int row) {
         StringBuilder told = new StringBuilder();
-        for (int place = 0; place < x.length(kind, row); place++) {
+        int places = x.length(kind, row);
+        for (int place = 0; place < places; place++) {
             told.append(place == 0 ? "" : " ").append(x.at(kind, row, place));
+        }
+        return told.toString();
+    }
+
+    /** The same form, of values that are due. */
+    static String values(int... values) {
+        StringBuilder told = new StringBuilder();
+        for (int place = 0; place < values.length; place++) {
+            told.append(place == 0 ? "" : " ").append(values[place]);
         }
         return told.toString();
     }
@@ -98,6 +145,15 @@ final class Check {
         for (int place = 0; place < values.length; place++) {
             x.putBox(row, place, values[place]);
         }
+    }
+
+    /** first, first + step, and so on. */
+    static int[] ramp(int places, int first, int step) {
+        int[] values = new int[places];
+        for (int place = 0; place < places; place++) {
+            values[place] = first + step * place;
+        }
+        return values;
     }
 
     /** All that the bench tells, but for how often the library refused. */
