@@ -219,7 +219,7 @@ public final class BoxEdgesTest {
         }
     }
 
-    /** 2. Boxes, lists: "HASH of a LIST is told as that of INTS": the last that fits, and the first that wraps around. */
+    /** 2. Boxes, lists: "HASH of a LIST is told as that of INTS": the last that fits, the first that wraps around. */
     private static void hashWrapsAround(int row) {
         Rowbench x = bench(row, 0, 0, 0, 0, 0, MOST - 887503681);
         check.asks("32: the greatest", x, MOST, () -> x.listHash(row));

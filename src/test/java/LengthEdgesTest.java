@@ -7,7 +7,9 @@ import java.util.Arrays;
 public final class LengthEdgesTest {
     private static final int MOST = 24;
     private static final int[] LENGTHS = {0, 1, 2, 23, MOST};
-    private static final int[] FAR = {Integer.MIN_VALUE, Integer.MIN_VALUE + 1, Integer.MAX_VALUE - 1, Integer.MAX_VALUE};
+    private static final int[] FAR = {
+        Integer.MIN_VALUE, Integer.MIN_VALUE + 1, Integer.MAX_VALUE - 1, Integer.MAX_VALUE
+    };
 
     private static final Check check = new Check();
 
@@ -192,9 +194,8 @@ public final class LengthEdgesTest {
         check.asks("14: above all of " + places, x, -1 - places, () -> x.search(kind, 0, 10 + 2 * places));
         for (int place = 0; place < places; place++) {
             int value = 10 + 2 * place;
-            int less = place;
             check.same("14: at " + place, x.search(kind, 0, value), 0);
-            check.same("14: behind " + place, x.search(kind, 0, value + 1), -2 - less);
+            check.same("14: behind " + place, x.search(kind, 0, value + 1), -1 - (place + 1));
         }
         // The first two, and the last two, are the only ones of which one stands ahead of a smaller one.
         if (places >= 2) {

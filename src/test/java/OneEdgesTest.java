@@ -135,7 +135,8 @@ public final class OneEdgesTest {
         String sorted = Check.values(first + 1, first + 2, 99);
         for (int other = 0; other < 3; other++) {
             String due = isOne(way, row, other) ? sorted : due(way, other);
-            check.same(promise + ": sorted in " + row + ", row " + other + " of " + way, Check.row(x, kind, other), due);
+            String what = promise + ": sorted in " + row + ", row " + other + " of " + way;
+            check.same(what, Check.row(x, kind, other), due);
         }
         isWay(promise, x, kind, way);
     }

@@ -245,7 +245,8 @@ public final class WholeEdgesTest {
 
     /** 36: "all of this is so", of rows without VALUES, of 24 places, of one VALUE alone, and that fall. */
     private static void soundAtTheEdges() {
-        check.asks("36: at first", new Rowbench(), true, () -> new Rowbench().isSound());
+        Rowbench first = new Rowbench();
+        check.asks("36: at first", first, true, () -> first.isSound());
         for (int places : new int[] {1, 2, 23, 24}) {
             for (int value = 0; value < 3; value++) {
                 Rowbench x = filledBench(places, value);
@@ -278,18 +279,26 @@ public final class WholeEdgesTest {
     /** 37: "A number d starts with 7709 [...] d * 31 + v, which wraps around as a 64-bit integer". */
     private static void digestWrapsAround() {
         isDigest("37: at first", new Rowbench(), new Rowbench());
-        for (int places : new int[] {0, 1, 13, 14}) {
-            for (int value = 0; value < 3 && places > 0; value++) {
+        isDigest("37: some are ONE", oneBench(), oneBench());
+        for (int places : new int[] {1, 2, 24}) {
+            for (int value = 0; value < 3; value++) {
                 isDigest("37: " + places + " places", filledBench(places, value), filledBench(places, value));
             }
         }
-        // With all 24 places of all rows it takes two benches that are alike to stay within 512 calls.
-        for (int value = 0; value < 3; value++) {
-            isDigest("37: full", filledBench(24, value), filledBench(24, value));
-        }
     }
 
-    /** The second bench is like the first one, and tells what the digest of the first one is made of. */
+    /** Of each kind another pair of rows is ONE, of the last two all, or none. */
+    private static Rowbench oneBench() {
+        Rowbench x = filledBench(3, 2);
+        x.share(0, 0, 1);
+        x.share(1, 0, 2);
+        x.share(2, 1, 2);
+        x.share(3, 0, 1);
+        x.share(3, 1, 2);
+        return x;
+    }
+
+    /** Two benches that are alike each tell a part of what a digest is made of: for one it is above 512 calls. */
     private static void isDigest(String what, Rowbench x, Rowbench alike) {
         BigInteger due = BigInteger.valueOf(7709);
         for (long v : toldNumbers(x, alike)) {
