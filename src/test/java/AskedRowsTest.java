@@ -20,6 +20,7 @@ public final class AskedRowsTest {
         isEqualFrom();
         hash();
         text();
+        sameHash();
         check.finish("AskedRowsTest");
     }
 
@@ -278,5 +279,22 @@ public final class AskedRowsTest {
         for (int no : Check.NO_ROWS) {
             check.noPlace("22: no row", x, () -> x.text(no));
         }
+    }
+
+    /** Rows are held beside each other VALUE by VALUE: these have the same HASH, as 31 times 1 is 31. */
+    private static void sameHash() {
+        for (int kind = 0; kind < 5; kind++) {
+            Rowbench x = new Rowbench();
+            Check.lay(x, kind, 0, 5, 0, 31);
+            Check.lay(x, kind, 1, 5, 1, 0);
+            check.same("16: the same HASH", x.isEqual(kind, 0, 1), false);
+            both("18: the same HASH", x, kind, -1);
+            check.same("19: the same HASH", x.mismatch(kind, 0, 1), 1);
+            check.same("20: the same HASH", x.isEqualFrom(kind, 0, 1, 1, 1), false);
+        }
+        Rowbench x = new Rowbench();
+        Check.lay(x, INTS, 0, 5, 0, 31);
+        Check.lay(x, INTS, 1, 5, 1, 0);
+        check.same("21: the same HASH", x.hash(0), x.hash(1));
     }
 }

@@ -44,7 +44,32 @@ public final class FaceTest {
         for (Field field : Rowbench.class.getDeclaredFields()) {
             check.same("field " + field.getName(), Modifier.isPrivate(field.getModifiers()), true);
         }
+        check.same("private methods with the name of a public one", privateNamesakes(), new TreeSet<String>());
+        keepsNothingForAll(check, Rowbench.class);
         check.finish("FaceTest");
+    }
+
+    /** LANGUAGE.md, rule 1: "No private method bears the name of a public one." */
+    private static TreeSet<String> privateNamesakes() {
+        TreeSet<String> publicNames = new TreeSet<>();
+        TreeSet<String> privateNames = new TreeSet<>();
+        for (Method method : Rowbench.class.getDeclaredMethods()) {
+            (Modifier.isPrivate(method.getModifiers()) ? privateNames : publicNames).add(method.getName());
+        }
+        privateNames.retainAll(publicNames);
+        return privateNames;
+    }
+
+    /** LANGUAGE.md, rule 5: "Static fields are final", of the classes inside too. */
+    private static void keepsNothingForAll(Check check, Class<?> inspected) {
+        for (Field field : inspected.getDeclaredFields()) {
+            int modifiers = field.getModifiers();
+            boolean isKept = Modifier.isStatic(modifiers) && !Modifier.isFinal(modifiers);
+            check.same(inspected.getName() + "." + field.getName() + " is kept for all objects", isKept, false);
+        }
+        for (Class<?> inside : inspected.getDeclaredClasses()) {
+            keepsNothingForAll(check, inside);
+        }
     }
 
     private static TreeSet<String> seenMethods() {

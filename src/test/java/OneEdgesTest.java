@@ -31,6 +31,8 @@ public final class OneEdgesTest {
             }
             sharedWithItself(kind);
             twoLeave(kind);
+            withoutValues(kind);
+            sameButNotOne(kind);
         }
         toldByRuleInAll();
         oneOfAnotherKind();
@@ -279,6 +281,42 @@ public final class OneEdgesTest {
             check.answers("5: without VALUES", x, 0, () -> x.share(kind, 1, 2));
             check.same("5: has none", x.length(kind, 2), 0);
         }
+    }
+
+    /** 1. Rows: the same of rows without VALUES: they are ONE, and what becomes another row leaves them. */
+    private static void withoutValues(int kind) {
+        leavesNothing("2: longer", kind, x -> x.resize(kind, 1, 2), 0, 2);
+        leavesNothing("2: without VALUES still", kind, x -> x.resize(kind, 1, 0), 0, 0);
+        leavesNothing("3: longer", kind, x -> x.range(kind, 1, 1, 0, 2), 2, 2);
+        leavesNothing("3: nothing of another", kind, x -> x.range(kind, 0, 1, 0, 0), 0, 0);
+        leavesNothing("4: itself", kind, x -> x.copy(kind, 1, 1), 0, 0);
+        leavesNothing("4: another", kind, x -> x.copy(kind, 2, 1), 0, 0);
+    }
+
+    private interface Leaving {
+        Object of(Rowbench x);
+    }
+
+    /** All are ONE and without VALUES: row 1 leaves, and has that many places then. */
+    private static void leavesNothing(String what, int kind, Leaving leaving, int answer, int places) {
+        Rowbench x = new Rowbench();
+        check.answers("5: nothing", x, 0, () -> x.share(kind, 0, 1));
+        check.answers("5: nothing", x, 0, () -> x.share(kind, 1, 2));
+        isWay("5: nothing", x, kind, "aaa");
+        check.answers(what, x, answer, () -> leaving.of(x));
+        isWay(what, x, kind, "aba");
+        check.same(what + ": has", x.length(kind, 1), places);
+        check.same(what + ": those have none", x.length(kind, 0) + x.length(kind, 2), 0);
+    }
+
+    /** 5: "Returns 1 if they were ONE already": rows with the same VALUES are not ONE by that. */
+    private static void sameButNotOne(int kind) {
+        Rowbench x = bench(kind, "abc");
+        x.copy(kind, 0, 1);
+        check.same("16: the same VALUES", x.isEqual(kind, 0, 1), true);
+        isWay("17: the same VALUES", x, kind, "abc");
+        check.answers("5: the same VALUES", x, 0, () -> x.share(kind, 0, 1));
+        isWay("5: the same VALUES", x, kind, "aab");
     }
 
     /** 1. Rows: of three that are ONE two leave, one after the other, and come back as a pair. */

@@ -25,6 +25,7 @@ public final class PartEdgesTest {
             namedRanges(kind);
             rangeOfTheFirst(kind);
             namedEqualFrom(kind);
+            equalFromOfZeros(kind);
         }
         check.finish("PartEdgesTest");
     }
@@ -274,6 +275,27 @@ public final class PartEdgesTest {
             return false;
         }
         return Arrays.equals(first, from, first.length, second, from2, second.length);
+    }
+
+    /** The same of rows of 0 alone: what stands outside a row is not 0, it is no place. */
+    private static void equalFromOfZeros(int kind) {
+        for (int places = 0; places <= 3; places++) {
+            for (int others = 0; others <= 3; others++) {
+                Rowbench x = new Rowbench();
+                x.resize(kind, 0, places);
+                x.resize(kind, 1, others);
+                for (int from = -4; from <= 5; from++) {
+                    for (int from2 = -4; from2 <= 5; from2++) {
+                        Object due = dueEqual(new int[places], from, new int[others], from2);
+                        String what = "20: 0 from " + from + " of " + places + ", " + from2 + " of " + others;
+                        int f = from;
+                        int f2 = from2;
+                        check.same(what, Check.outcome(() -> x.isEqualFrom(kind, 0, f, 1, f2)), due);
+                    }
+                }
+                check.same("35: tells no number, so is not counted", x.house(2), 0);
+            }
+        }
     }
 
     /** 20: the last from and from2 that are allowed, and the first that are not, one by one. */
